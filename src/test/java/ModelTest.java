@@ -136,6 +136,7 @@ public final class ModelTest {
     private final GlobDesk desk = new GlobDesk();
     private final Model model = new Model();
     private final StringBuilder story = new StringBuilder();
+    private int calls = 0;
 
     private ModelTest(int seed) {
         random = new Random(seed);
@@ -172,8 +173,8 @@ public final class ModelTest {
     }
 
     private void everyMatch(String value, String key) {
-        Due.fill(desk, 0, value);
-        Due.fill(desk, 1, key);
+        due.fill(desk, 0, value);
+        due.fill(desk, 1, key);
         model.rows[0] = value;
         model.rows[1] = key;
         story.append("value ").append(value).append(", key ").append(key).append('\n');
@@ -191,8 +192,9 @@ public final class ModelTest {
         }
     }
 
+    /** A step makes one call or two, and no call behind the last promised one is looked at. */
     private void run(int[] matched) {
-        for (int call = 0; call < CALLS; call++) {
+        while (calls < CALLS - 1) {
             step(matched);
         }
     }
@@ -267,6 +269,7 @@ public final class ModelTest {
     }
 
     private void answer(String call, long got, long want) {
+        calls++;
         story.append(call).append(" = ").append(got).append('\n');
         if (got != want) {
             System.out.print(story);

@@ -1,85 +1,52 @@
-/** Promise 7: order. */
+/** Promise 7: order; how each comparator orders stands in TermsComparatorsTest. */
 public final class Promise07OrderTest {
     private static final Due due = new Due();
 
-    /** The answers by comparators 0, 1 and 2, and the other way round. */
-    private static void check(String value, String key, int... want) {
-        GlobDesk desk = Due.desk(value, key);
-        GlobDesk turned = Due.desk(key, value);
-        for (int comparator = 0; comparator < 3; comparator++) {
-            String call = "order(" + comparator + ") of '" + value + "' and '" + key + "'";
-            due.same(call, desk.order(comparator), want[comparator]);
-            due.same(call + " turned", turned.order(comparator), -want[comparator]);
-        }
-        due.row("after order", desk, 0, value);
-        due.row("after order", desk, 1, key);
-    }
-
     public static void main(String[] args) {
-        check("", "", 0, 0, 0);
-        check("abc", "abc", 0, 0, 0);
-        check("abc", "abd", -1, -1, 0);
-        check("ab", "abc", -1, -1, 0);
-        check("", "a", -1, -1, 0);
-        check("b", "abc", 1, 1, 0);
-        check("hello", "LL", -1, 1, 0);
-        check("ABC", "abc", 0, -1, 0);
-        check("AB", "abc", -1, -1, 0);
-        check("a", "_", -1, 1, 0);
-        check("A", "_", -1, -1, 0);
-        check("z", "[", -1, 1, 0);
-        check("a", "@", 1, 1, 0);
-        check("z", "`", -1, 1, 0);
-        check("Z", "{", -1, -1, 0);
-        check("\u0080", "\u007f", 1, 1, 0);
-        check("\u00ff", "\0", 1, 1, 0);
-        check("\u00e0", "\u00c0", 1, 1, 0);
-        check("*", "?", -1, -1, 0);
-        numbers();
-        wrongInputs();
-        matchIsKept();
+        aheadLikeBehind();
+        wrongComparator();
+        rowsAreKept();
         due.end();
     }
 
-    private static void numbers() {
-        check("9", "10", 1, 1, -1);
-        check("007", "7x", -1, -1, 0);
-        check("7", "7.5", -1, -1, 0);
-        check("0", "", 1, 1, -1);
-        check("9999", "x", -1, -1, -1);
-        check("-5", "3", -1, -1, 1);
-        check(" 5", "9", -1, -1, 1);
-        check("0", "00", -1, -1, 0);
-        check("0x", "1", -1, -1, -1);
-        check("100", "99", -1, -1, 1);
-        check("0100", "99", -1, -1, 1);
-        check("129", "130", -1, -1, -1);
-        check("4294967296", "1", 1, 1, 1);
-        check("9223372036854775808", "9223372036854775807", 1, 1, 1);
-        check("18446744073709551617", "2", -1, -1, 1);
-        check("9".repeat(100), "9".repeat(99) + "8", 1, 1, 1);
-        check("1" + "0".repeat(99), "9".repeat(99), -1, -1, 1);
-        check("0".repeat(100), "0", 1, 1, 0);
-        check("0".repeat(99) + "1", "0", 1, 1, 1);
-        check("9".repeat(100), "", 1, 1, -1);
-    }
-
-    private static void wrongInputs() {
-        GlobDesk desk = Due.desk("a", "b");
-        int[] wrong = {-1, 3, -2, Integer.MIN_VALUE, Integer.MAX_VALUE};
-        for (int bad : wrong) {
-            due.same("order(" + bad + ")", desk.order(bad), -2);
+    /** Never another number, however far apart the rows stand. */
+    private static void aheadLikeBehind() {
+        due.sentence("Promise 7", "-1, 0, 1 as the value stands ahead of the key, like it, behind it");
+        for (int comparator = 0; comparator < 3; comparator++) {
+            due.order(comparator, "", "", 0);
+            due.order(comparator, "1", "2", -1);
+            due.order(comparator, "2", "1", 1);
+            due.order(comparator, "5", "5", 0);
+            due.order(comparator, "1", "1".repeat(100), -1);
         }
-        due.row("after wrong inputs", desk, 0, "a");
-        due.row("after wrong inputs", desk, 1, "b");
+        due.order(0, "\0", "\u00ff", -1);
+        due.order(1, "\0", "\u00ff", -1);
+        due.order(0, "", "\u00ff".repeat(100), -1);
+        due.order(1, "", "\u00ff".repeat(100), -1);
+        due.order(2, "0", "9".repeat(100), -1);
+        due.order(2, "9".repeat(100), "", -1);
+        due.order(0, "hello", "LL", -1);
+        due.order(1, "hello", "LL", 1);
+        due.order(2, "hello", "LL", 0);
     }
 
-    private static void matchIsKept() {
-        GlobDesk desk = Due.desk("hello", "h*o");
-        desk.match(2, 1);
+    private static void wrongComparator() {
+        due.sentence("Promise 7", "-2 for a comparator not 0 .. 2");
+        GlobDesk desk = due.desk("a", "b");
+        GlobDesk empty = new GlobDesk();
+        for (int bad : Due.outside(0, 2)) {
+            due.same("order(" + bad + ")", desk.order(bad), -2);
+            due.same("new, order(" + bad + ")", empty.order(bad), -2);
+        }
+    }
+
+    private static void rowsAreKept() {
+        due.sentence("Promise 7", "as the value stands ahead of the key", "both stay as they are");
+        GlobDesk desk = due.desk("aB007", "Ab7");
         for (int comparator = -1; comparator < 4; comparator++) {
             desk.order(comparator);
         }
-        due.spans("after order", desk, 1, 3);
+        due.row("after order", desk, 0, "aB007");
+        due.row("after order", desk, 1, "Ab7");
     }
 }
