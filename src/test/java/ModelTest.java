@@ -10,6 +10,7 @@ import java.util.Random;
 public final class ModelTest {
     private static final int RUNS = 3000;
     private static final int CALLS = 512;
+    private static final int LONG_PAIRS = 40000;
     private static final String[] ALPHABETS = {
         "ab*", "aA*?", "aAbB*?\\", "0123456789", "01x", "09/:", "@AZ[`az{_", "a*", "\\*a", "\0\u007f\u0080\u00ff*",
     };
@@ -158,6 +159,32 @@ public final class ModelTest {
             }
         }
         System.out.println(values.size() * keys.size() + " small pairs of rows like the model's");
+        int like = 0;
+        for (int seed = 0; seed < LONG_PAIRS; seed++) {
+            like += new ModelTest(seed).longPair();
+        }
+        System.out.println(LONG_PAIRS + " long pairs of rows like the model's; like without case " + like);
+    }
+
+    /** The value is written from the key: rows this long are hardly ever like each other by chance. */
+    private int longPair() {
+        StringBuilder key = new StringBuilder();
+        StringBuilder value = new StringBuilder();
+        int most = random.nextInt(101);
+        for (int mark = 0; mark < most; mark++) {
+            char letter = "aAbB".charAt(random.nextInt(4));
+            int kind = random.nextInt(12);
+            key.append(kind < 2 ? "*" : kind == 2 ? "?" : kind == 3 ? "\\*" : String.valueOf(letter));
+            String one = kind == 3 ? "*" : String.valueOf(letter);
+            value.append(kind < 2 ? "abAB".substring(random.nextInt(5)) : one);
+        }
+        if (random.nextInt(4) == 0 && value.length() > 0) {
+            value.setCharAt(random.nextInt(value.length()), 'a');
+        }
+        key.setLength(Math.min(100, key.length()));
+        value.setLength(Math.min(100, value.length()));
+        everyMatch(value.toString(), key.toString());
+        return model.match(2, 0);
     }
 
     private static List<String> allTexts(String alphabet, int most) {
